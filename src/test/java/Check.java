@@ -1,0 +1,70 @@
+import java.util.Objects;
+
+/** Compares answers with those that are due, and ends a test with exit code 1 if one differs. */
+final class Check {
+    private static int wrong = 0;
+    private static int made = 0;
+
+    private Check() {
+    }
+
+    /** A call that may throw. */
+    interface Call {
+        Object answer();
+    }
+
+    static void same(String what, Object got, Object due) {
+        made++;
+        if (!Objects.equals(got, due)) {
+            wrong++;
+            System.out.println(what + " answered " + got + ", due is " + due);
+        }
+    }
+
+    /** The answer of a call, or throws. and the name of the exception that it throws. */
+    static Object answer(Call call) {
+        try {
+            return call.answer();
+        } catch (RuntimeException e) {
+            return "throws." + e.getClass().getSimpleName();
+        }
+    }
+
+    static void answers(String what, Call call, Object due) {
+        same(what, answer(call), due);
+    }
+
+    /** Checks that a call throws an exception of a class, and changes nothing and is no access. */
+    static void refuses(TypedColumns x, String what, Call call, Class<? extends RuntimeException> due) {
+        long digest = x.digest();
+        int code = x.code();
+        int columns = x.columnCount();
+        same(what, answer(call), "throws." + due.getSimpleName());
+        same("digest() after " + what, x.digest(), digest);
+        same("code() after " + what, x.code(), code);
+        same("columnCount() after " + what, x.columnCount(), columns);
+    }
+
+    /** Checks that the latest access had a code, and that since counts were taken only its count grew, by 1. */
+    static void oneMore(TypedColumns x, String what, int[] before, int code) {
+        same("code() after " + what, x.code(), code);
+        for (int k = 0; k < before.length; k++) {
+            same("count(" + k + ") after " + what, x.count(k), before[k] + (k == code ? 1 : 0));
+        }
+    }
+
+    static int[] counts(TypedColumns x) {
+        int[] counts = new int[6];
+        for (int k = 0; k < counts.length; k++) {
+            counts[k] = x.count(k);
+        }
+        return counts;
+    }
+
+    static void end() {
+        System.out.println(wrong == 0 ? made + " answers are as due" : wrong + " answers are not as due");
+        if (wrong != 0) {
+            System.exit(1);
+        }
+    }
+}
