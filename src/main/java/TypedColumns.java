@@ -30,7 +30,6 @@ public final class TypedColumns {
     private int created;
     private int latestCode;
 
-    /** Creates a store without columns. */
     public TypedColumns() {
         columns = new Column[MOST_COLUMNS];
         counts = new int[CODES];
@@ -39,7 +38,6 @@ public final class TypedColumns {
         latestCode = GRANTED;
     }
 
-    /** Creates a column and returns its number. */
     public int create(int kind, int length) throws IllegalArgumentException, IllegalStateException {
         if (!isKind(kind)) {
             throw new IllegalArgumentException("no such kind");
@@ -51,115 +49,91 @@ public final class TypedColumns {
         return addColumn(new Column(kind, length));
     }
 
-    /** Returns the number of columns. */
     public int columnCount() {
         return created;
     }
 
-    /** Returns the kind of a column. */
     public int kind(int c) throws IndexOutOfBoundsException {
         return columnAt(c).kind;
     }
 
-    /** Returns the length of a column; -1 if it has none. */
     public int length(int c) throws IndexOutOfBoundsException {
         Column column = columnAt(c);
         note(codeOfColumn(column));
         return column.length;
     }
 
-    /** Reads a cell as BOOLEAN; false if it is refused. */
     public boolean readBoolean(int c, int i) throws IndexOutOfBoundsException {
-        return readWhole(c, i, BOOLEAN) != 0;
+        return readWhole(columnAt(c), i, BOOLEAN) != 0;
     }
 
-    /** Reads a cell as BYTE; 0 if it is refused. */
     public int readByte(int c, int i) throws IndexOutOfBoundsException {
-        return (int) readWhole(c, i, BYTE);
+        return (int) readWhole(columnAt(c), i, BYTE);
     }
 
-    /** Reads a cell as CHAR; 0 if it is refused. */
     public int readChar(int c, int i) throws IndexOutOfBoundsException {
-        return (int) readWhole(c, i, CHAR);
+        return (int) readWhole(columnAt(c), i, CHAR);
     }
 
-    /** Reads a cell as SHORT; 0 if it is refused. */
     public int readShort(int c, int i) throws IndexOutOfBoundsException {
-        return (int) readWhole(c, i, SHORT);
+        return (int) readWhole(columnAt(c), i, SHORT);
     }
 
-    /** Reads a cell as INT; 0 if it is refused. */
     public int readInt(int c, int i) throws IndexOutOfBoundsException {
-        return (int) readWhole(c, i, INT);
+        return (int) readWhole(columnAt(c), i, INT);
     }
 
-    /** Reads a cell as LONG; 0 if it is refused. */
     public long readLong(int c, int i) throws IndexOutOfBoundsException {
-        return readWhole(c, i, LONG);
+        return readWhole(columnAt(c), i, LONG);
     }
 
-    /** Reads a cell as FLOAT; 0 if it is refused. */
     public float readFloat(int c, int i) throws IndexOutOfBoundsException {
         Column column = columnAt(c);
         int code = note(codeOfCell(column, i, column.kind, FLOAT));
         return code == GRANTED ? column.floatAt(i) : 0;
     }
 
-    /** Reads a cell as DOUBLE; 0 if it is refused. */
     public double readDouble(int c, int i) throws IndexOutOfBoundsException {
-        Column column = columnAt(c);
-        int code = note(codeOfCell(column, i, column.kind, DOUBLE));
-        return code == GRANTED ? column.doubleAt(i) : 0;
+        return readReal(columnAt(c), i, DOUBLE);
     }
 
-    /** Reads a cell as its own kind and returns it as a double; 0 if it is refused. */
     public double readAny(int c, int i) throws IndexOutOfBoundsException {
         Column column = columnAt(c);
-        int code = note(codeOfCell(column, i, column.kind, column.kind));
-        return code == GRANTED ? column.doubleAt(i) : 0;
+        return readReal(column, i, column.kind);
     }
 
-    /** Writes a BOOLEAN into a cell and returns the code. */
     public int writeBoolean(int c, int i, boolean value) throws IndexOutOfBoundsException {
         return writeWhole(columnAt(c), i, BOOLEAN, value ? 1 : 0);
     }
 
-    /** Writes a BYTE, the lowest bits of a number, into a cell and returns the code. */
     public int writeByte(int c, int i, int value) throws IndexOutOfBoundsException {
         return writeWhole(columnAt(c), i, BYTE, (byte) value);
     }
 
-    /** Writes a CHAR, the lowest bits of a number, into a cell and returns the code. */
     public int writeChar(int c, int i, int value) throws IndexOutOfBoundsException {
         return writeWhole(columnAt(c), i, CHAR, (char) value);
     }
 
-    /** Writes a SHORT, the lowest bits of a number, into a cell and returns the code. */
     public int writeShort(int c, int i, int value) throws IndexOutOfBoundsException {
         return writeWhole(columnAt(c), i, SHORT, (short) value);
     }
 
-    /** Writes an INT into a cell and returns the code. */
     public int writeInt(int c, int i, int value) throws IndexOutOfBoundsException {
         return writeWhole(columnAt(c), i, INT, value);
     }
 
-    /** Writes a LONG into a cell and returns the code. */
     public int writeLong(int c, int i, long value) throws IndexOutOfBoundsException {
         return writeWhole(columnAt(c), i, LONG, value);
     }
 
-    /** Writes a FLOAT into a cell and returns the code. */
     public int writeFloat(int c, int i, float value) throws IndexOutOfBoundsException {
         return writeReal(columnAt(c), i, FLOAT, doubleOf(value));
     }
 
-    /** Writes a DOUBLE into a cell and returns the code. */
     public int writeDouble(int c, int i, double value) throws IndexOutOfBoundsException {
         return writeReal(columnAt(c), i, DOUBLE, value);
     }
 
-    /** Writes a value of some kind, made from an INT, into a cell and returns the code. */
     public int writeAny(int c, int i, int kind, int value)
             throws IndexOutOfBoundsException, IllegalArgumentException {
         Column column = columnAt(c);
@@ -173,7 +147,6 @@ public final class TypedColumns {
         return writeWhole(column, i, kind, wholeMadeFrom(value, kind));
     }
 
-    /** Copies cells between columns of the same kind and returns the code. */
     public int copy(int from, int fromIndex, int to, int toIndex, int many)
             throws IndexOutOfBoundsException {
         Column source = columnAt(from);
@@ -189,14 +162,12 @@ public final class TypedColumns {
         return note(code);
     }
 
-    /** Adds up all cells of a column, each converted to a double; 0 if it is refused. */
     public double total(int c) throws IndexOutOfBoundsException {
         Column column = columnAt(c);
         int code = note(codeOfColumn(column));
         return code == GRANTED ? column.sum() : 0;
     }
 
-    /** Creates a column of another kind with the same values and returns its number; -1 if it is refused. */
     public int widened(int c, int kind)
             throws IndexOutOfBoundsException, IllegalArgumentException, IllegalStateException {
         Column column = columnAt(c);
@@ -214,12 +185,10 @@ public final class TypedColumns {
         return addColumn(wider);
     }
 
-    /** Returns the code of the latest access; 0 if there was none. */
     public int code() {
         return latestCode;
     }
 
-    /** Returns how many accesses had a code. */
     public int count(int code) throws IndexOutOfBoundsException {
         if (code < 0 || code >= counts.length) {
             throw new IndexOutOfBoundsException("no such code");
@@ -227,26 +196,22 @@ public final class TypedColumns {
         return counts[code];
     }
 
-    /** Returns whether a column of a kind has cells. */
     public boolean hasCells(int kind) throws IndexOutOfBoundsException {
         refuseNoKind(kind);
         return holdsCells(kind);
     }
 
-    /** Returns whether the cells of a column of a kind are numbers. */
     public boolean isNumber(int kind) throws IndexOutOfBoundsException {
         refuseNoKind(kind);
         return kind == BYTE || (kind >= SHORT && kind <= DOUBLE);
     }
 
-    /** Returns whether a value of one kind can be widened to another one. */
     public boolean canWiden(int from, int to) throws IndexOutOfBoundsException {
         refuseNoKind(from);
         refuseNoKind(to);
         return widens(from, to);
     }
 
-    /** Computes a checksum of the columns and the counts of the codes. */
     public long digest() {
         long d = mixed(53, created);
         for (int c = 0; c < created; c++) {
@@ -362,10 +327,14 @@ public final class TypedColumns {
         return alike ? GRANTED : NOT_ALIKE;
     }
 
-    private long readWhole(int c, int i, int kind) {
-        Column column = columnAt(c);
+    private long readWhole(Column column, int i, int kind) {
         int code = note(codeOfCell(column, i, column.kind, kind));
         return code == GRANTED ? column.wholeAt(i) : 0;
+    }
+
+    private double readReal(Column column, int i, int kind) {
+        int code = note(codeOfCell(column, i, column.kind, kind));
+        return code == GRANTED ? column.doubleAt(i) : 0;
     }
 
     private int writeWhole(Column column, int i, int kind, long value) {
@@ -399,7 +368,8 @@ public final class TypedColumns {
         }
     }
 
-    // No cast and no sum may itself answer what is no number, so it is a constant, which the compiler makes.
+    // No operation may answer NaN while the program runs (LANGUAGE.md, rule 3), so where the document asks
+    // for what is no number, the answer is a constant: javac folds these two quotients away.
     private static double noNumber() {
         return 0.0 / 0.0;
     }

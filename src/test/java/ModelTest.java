@@ -10,7 +10,8 @@ public final class ModelTest {
     private static final Class<?>[] TYPES = {null, boolean.class, byte.class, char.class, short.class, int.class,
         long.class, float.class, double.class, null};
     private static final int RUNS = 3000;
-    private static final int CALLS = 512;
+    // a step makes up to three calls, and what an object answers after its 512th call is free
+    private static final int STEPS = 400;
 
     private static final int[] INTS = {0, 1, -1, 2, 65, 127, 128, -128, 255, 256, 32767, 32768, 65535, 65536,
         65601, 16777217, -16777219, Integer.MAX_VALUE, Integer.MIN_VALUE};
@@ -47,8 +48,8 @@ public final class ModelTest {
     private void run(int run) {
         // some runs have few columns that are used much, others fill the store
         int most = pick(2) == 0 ? 4 : 60;
-        for (int call = 0; call < CALLS; call++) {
-            step("run " + run + ", call " + call + ": ", kinds.size() < most ? pick(29) : 4 + pick(25));
+        for (int step = 0; step < STEPS; step++) {
+            step("run " + run + ", step " + step + ": ", kinds.size() < most ? pick(29) : 4 + pick(25));
         }
     }
 
