@@ -156,6 +156,8 @@ public final class ColumnsTest {
         Check.same("a total of tenths", totalOf(0.1, 0.2, 0.3), 0.6000000000000001);
         Check.same("a total of -0 begins with 0", totalOf(-0.0, -0.0), 0.0);
         Check.same("a total beyond the largest double", totalOf(1.7E308, 1.7E308), Double.POSITIVE_INFINITY);
+        Check.same("a total of the largest doubles", totalOf(1.7976931348623157E308, -1.7976931348623157E308), 0.0);
+        Check.same("a total of the smallest doubles", totalOf(-1.7976931348623157E308, 1.7976931348623157E308), 0.0);
         Check.same("a total of denormal numbers", totalOf(4.9E-324, 4.9E-324), 1.0E-323);
         TypedColumns x = new TypedColumns();
         x.create(6, 3);
