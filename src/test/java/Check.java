@@ -4,6 +4,7 @@ import java.util.Objects;
 final class Check {
     private static int wrong = 0;
     private static int made = 0;
+    private static String about = "";
 
     private Check() {
     }
@@ -13,11 +14,20 @@ final class Check {
         Object answer();
     }
 
+    /** Words that stand before each line about a wrong answer from now on. */
+    static void about(String words) {
+        about = words;
+    }
+
+    static int made() {
+        return made;
+    }
+
     static void same(String what, Object got, Object due) {
         made++;
         if (!Objects.equals(got, due)) {
             wrong++;
-            System.out.println(what + " answered " + got + ", due is " + due);
+            System.out.println(about + what + " answered " + got + ", due is " + due);
         }
     }
 
@@ -51,6 +61,22 @@ final class Check {
         for (int k = 0; k < before.length; k++) {
             same("count(" + k + ") after " + what, x.count(k), before[k] + (k == code ? 1 : 0));
         }
+    }
+
+    /** Checks the answer and the code of an access, and that it changes nothing but how many had this code. */
+    static void countsOnly(TypedColumns x, String what, Call call, Object due, int code) {
+        int[] before = counts(x);
+        int columns = x.columnCount();
+        long digest = x.digest();
+        same(what, answer(call), due);
+        oneMore(x, what, before, code);
+        same("columnCount() after " + what, x.columnCount(), columns);
+        // the counts are the last numbers of a digest, so that one more with a code weighs a power of 31
+        long weight = 1;
+        for (int k = code; k < before.length - 1; k++) {
+            weight *= 31;
+        }
+        same("digest() after " + what, x.digest(), digest + weight);
     }
 
     static int[] counts(TypedColumns x) {

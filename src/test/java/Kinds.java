@@ -45,6 +45,26 @@ final class Kinds {
         return x;
     }
 
+    /** A store as above, in which each cell is true or 1. */
+    static TypedColumns filled(int length) {
+        TypedColumns x = store(length);
+        for (int kind = BOOLEAN; kind <= DOUBLE; kind++) {
+            for (int i = 0; i < length; i++) {
+                writeOne(x, kind, kind, i);
+            }
+        }
+        return x;
+    }
+
+    /** A store with 60 columns, whose kinds are their numbers modulo 10. */
+    static TypedColumns full(int length) {
+        TypedColumns x = new TypedColumns();
+        for (int c = 0; c < 60; c++) {
+            x.create(c % 10, length);
+        }
+        return x;
+    }
+
     /** Reads a cell as a kind. */
     static Object read(TypedColumns x, int kind, int c, int i) {
         switch (kind) {
@@ -82,18 +102,23 @@ final class Kinds {
         }
     }
 
-    /** Writes true or 1 as a kind. */
-    static int writeOne(TypedColumns x, int kind, int c, int i) {
+    /** Writes an integer as a kind that holds it: for BOOLEAN true if it is not 0. */
+    static int write(TypedColumns x, int kind, int c, int i, long value) {
         switch (kind) {
-            case BOOLEAN: return x.writeBoolean(c, i, true);
-            case BYTE: return x.writeByte(c, i, 1);
-            case CHAR: return x.writeChar(c, i, 1);
-            case SHORT: return x.writeShort(c, i, 1);
-            case INT: return x.writeInt(c, i, 1);
-            case LONG: return x.writeLong(c, i, 1);
-            case FLOAT: return x.writeFloat(c, i, 1);
-            case DOUBLE: return x.writeDouble(c, i, 1);
+            case BOOLEAN: return x.writeBoolean(c, i, value != 0);
+            case BYTE: return x.writeByte(c, i, (int) value);
+            case CHAR: return x.writeChar(c, i, (int) value);
+            case SHORT: return x.writeShort(c, i, (int) value);
+            case INT: return x.writeInt(c, i, (int) value);
+            case LONG: return x.writeLong(c, i, value);
+            case FLOAT: return x.writeFloat(c, i, value);
+            case DOUBLE: return x.writeDouble(c, i, value);
             default: throw new AssertionError(kind);
         }
+    }
+
+    /** Writes true or 1 as a kind. */
+    static int writeOne(TypedColumns x, int kind, int c, int i) {
+        return write(x, kind, c, i, 1);
     }
 }
