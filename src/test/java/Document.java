@@ -6,7 +6,7 @@ import java.util.LinkedHashMap;
 import java.util.List;
 import java.util.Map;
 
-/** The lines and sentences of the document, by the headings under which they stand. */
+/** The lines and sentences of a page, as the document, by the headings under which they stand. */
 final class Document {
     private static final String HEADING = "## ";
 
@@ -38,8 +38,28 @@ final class Document {
         return new ArrayList<>(lines.keySet());
     }
 
+    List<String> lines(String heading) {
+        return lines.getOrDefault(heading, List.of());
+    }
+
+    /** The lines of the first block of a language under a heading, such as one that begins with ```java. */
+    List<String> block(String heading, String language) {
+        List<String> block = new ArrayList<>();
+        boolean inside = false;
+        for (String line : lines(heading)) {
+            if (inside && line.equals("```")) {
+                return block;
+            }
+            if (inside) {
+                block.add(line);
+            }
+            inside = inside || line.equals("```" + language);
+        }
+        return block;
+    }
+
     boolean says(String heading, String words) {
-        for (String line : lines.getOrDefault(heading, List.of())) {
+        for (String line : lines(heading)) {
             if (line.contains(words)) {
                 return true;
             }

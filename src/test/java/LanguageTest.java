@@ -1,6 +1,5 @@
 import java.io.IOException;
 import java.nio.file.Files;
-import java.nio.file.Path;
 import java.util.Arrays;
 import java.util.HashSet;
 import java.util.Set;
@@ -16,7 +15,7 @@ public final class LanguageTest {
         "\\btransient\\b", "\\bnative\\b", "static \\{", "\\bstatic final (double|float)\\b"};
 
     public static void main(String[] args) throws IOException {
-        String source = Files.readString(Path.of(System.getProperty("project.main")));
+        String source = Files.readString(Project.main());
         String code = source.replaceAll("(?s)/\\*.*?\\*/", "").replaceAll("//[^\n]*", "")
                 .replaceAll("\"[^\"\n]*\"", "\"\"");
         Matcher name = Pattern.compile("\\b[A-Z]\\w*[a-z]\\w*\\b").matcher(code);

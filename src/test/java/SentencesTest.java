@@ -1,10 +1,9 @@
 import java.io.IOException;
-import java.nio.file.Path;
 
 /** A test for each boundary case that the document names, under its promise and its words. */
 public final class SentencesTest {
     public static void main(String[] args) throws IOException {
-        Edges edges = new Edges(new Document(Path.of(System.getProperty("project.document"))));
+        Edges edges = new Edges(new Document(Project.document()));
         DescriptionEdges.run(edges);
         CreationEdges.run(edges);
         ReadEdges.run(edges);

@@ -11,6 +11,7 @@ public final class WriteTest {
         theLowestBitsAreTaken();
         integersIntoFloatAndDouble();
         floatsIntoDouble();
+        eachBitIsKept();
         booleans();
         anyMakesItsValue();
         anyRefuses();
@@ -133,6 +134,24 @@ public final class WriteTest {
         Check.same("writeDouble into a FLOAT", x.writeDouble(7, 0, 1.5), 4);
         Check.same("what is no number into a FLOAT as DOUBLE", x.writeDouble(7, 0, Double.NaN), 4);
         Check.same("the FLOAT then", x.readFloat(7, 0), 0f);
+    }
+
+    private static void eachBitIsKept() {
+        TypedColumns x = Kinds.store(1);
+        for (long value : new long[] {1234567890123456789L, -1, 1L << 32, Long.MIN_VALUE, Long.MAX_VALUE}) {
+            x.writeLong(6, 0, value);
+            Check.same("writeLong of " + value, x.readLong(6, 0), value);
+        }
+        for (float value : new float[] {0.1f, -0f, 3.4028235E38f, 1.4E-45f, Float.NEGATIVE_INFINITY, Float.NaN}) {
+            x.writeFloat(7, 0, value);
+            Check.same("writeFloat of " + value, x.readFloat(7, 0), value);
+        }
+        double[] doubles = {0.1, -0.0, 16777217.0, 1.7976931348623157E308, 4.9E-324, Double.POSITIVE_INFINITY,
+            Double.NaN};
+        for (double value : doubles) {
+            x.writeDouble(8, 0, value);
+            Check.same("writeDouble of " + value, x.readDouble(8, 0), value);
+        }
     }
 
     private static void booleans() {
